@@ -26,6 +26,9 @@ public final class RotorBalancer {
     private static final int MOST_ITEMS = 40;
     private static final int MOST_DOUBLINGS = 62;
 
+    private static final int LEAST_INT = 1 << 31;
+    private static final long LEAST_LONG = 1L << 63;
+
     private static final int FINDING_NULL = 1;
     private static final int FINDING_INDEX = 2;
     private static final int FINDING_SIZE = 3;
@@ -47,9 +50,9 @@ public final class RotorBalancer {
     private final Num result = new Num();
     private final Num square = new Num();
     private final Rotor rotor = new Rotor();
-    private final Bearings bearings = new Bearings(ring, rotor);
-    private final Search search = new Search(ring, rotor);
-    private final Splitter splitter = new Splitter(ring);
+    private final Bearings bearings = new Bearings();
+    private final Search search = new Search();
+    private final Splitter splitter = new Splitter();
     private final Sheets sheets = new Sheets();
 
     public RotorBalancer() {
@@ -120,7 +123,7 @@ public final class RotorBalancer {
 
     public int compare(int r, int s) {
         if (isOutside(r, REGISTERS) || isOutside(s, REGISTERS)) {
-            return Integer.MIN_VALUE;
+            return LEAST_INT;
         }
         if (!ring.difference(registers[r], registers[s], result)) {
             return OVER;
@@ -158,7 +161,7 @@ public final class RotorBalancer {
         if (isOutside(plane, PLANES) || isOutside(angle, ANGLES) || size < 1 || size > MOST_SIZE) {
             return BAD;
         }
-        if (!rotor.isOpen(plane, angle)) {
+        if ((rotor.openBits(plane) >> angle & 1) == 0) {
             return NOT;
         }
         makeHole(plane, angle, size);
@@ -223,7 +226,7 @@ public final class RotorBalancer {
         if (isOutside(plane, PLANES)) {
             return BAD;
         }
-        return search.isQuiet(plane) ? 1 : 0;
+        return search.isQuiet(rotor, plane) ? 1 : 0;
     }
 
     // ---- bearings, trials
@@ -242,7 +245,7 @@ public final class RotorBalancer {
         if (isOutside(k, TRIALS) || k != 0 && (isNoMoment(moment) || isOutside(angle, ANGLES))) {
             return BAD;
         }
-        bearings.run(k, moment, angle);
+        bearings.run(rotor, k, moment, angle);
         return bearings.keptTrials();
     }
 
@@ -287,7 +290,7 @@ public final class RotorBalancer {
         if (isOutside(plane, PLANES) || isOutside(n, MOST_NEW_HOLES + 1) || isOutside(what, 3)) {
             return BAD;
         }
-        search.run(plane, n);
+        search.run(rotor, plane, n);
         return search.told(what);
     }
 
@@ -295,7 +298,7 @@ public final class RotorBalancer {
         if (isOutside(plane, PLANES) || isOutside(n, MOST_NEW_HOLES + 1)) {
             return BAD;
         }
-        search.run(plane, n);
+        search.run(rotor, plane, n);
         int holes = search.told(0);
         if (holes == NONE) {
             return NOT;
@@ -430,7 +433,7 @@ public final class RotorBalancer {
                 return bearings.keptTrials();
             case 4:
             case 5:
-                return search.isQuiet(what - 4) ? 1 : 0;
+                return search.isQuiet(rotor, what - 4) ? 1 : 0;
             case 6:
                 return rotor.reach();
             case 7:
@@ -471,7 +474,7 @@ public final class RotorBalancer {
             h = 31 * h + split(plane, k, 5, 0);
             h = 31 * h + split(plane, k, 5, 4);
         }
-        search.run(plane, 2);
+        search.run(rotor, plane, 2);
         for (int what = 0; what < 3; what++) {
             h = 31 * h + search.told(what);
         }
@@ -510,7 +513,7 @@ public final class RotorBalancer {
 
     /** A refusal where the answer is a long. */
     private static long asLong(int refusal) {
-        return Long.MIN_VALUE - refusal;
+        return LEAST_LONG - refusal;
     }
 
     /** A NUMBER: (a and b ROOTS and, TURNED, c and e ROOTS) by d. */
@@ -645,7 +648,29 @@ public final class RotorBalancer {
 
         /** False, too, if y is 0: whoever calls asks for that first. */
         boolean quotient(Num x, Num y, Num to) {
-            return !y.isZero() && reciprocal(y) && product(x, inverse, to);
+            if (y.isZero()) {
+                return false;
+            }
+            over = false;
+            turned.become(y.a, y.b, less(0, y.c), less(0, y.e), 1);
+            factor.become(y.a, y.b, y.c, y.e, 1);
+            if (over || !product(factor, turned, factor)) {
+                return false;
+            }
+            // T is the product of N and N with its root's sign changed, both sums of two squares:
+            // it is above 0 for all but 0, so no signs have to be changed for it.
+            long t = less(times(factor.a, factor.a), thrice(factor.b, factor.b));
+            factor.become(factor.a, less(0, factor.b), 0, 0, 1);
+            if (over || !product(turned, factor, inverse)) {
+                return false;
+            }
+            factor.become(y.d, 0, 0, 0, 1);
+            if (!product(inverse, factor, inverse)) {
+                return false;
+            }
+            inverse.d = t;
+            inverse.shorten();
+            return product(x, inverse, to);
         }
 
         /** SIGN of a and b ROOTS, or OVER: the squares are looked at only if the signs are unlike. */
@@ -664,26 +689,6 @@ public final class RotorBalancer {
                 return OVER;
             }
             return isMore ? ofA : ofB;
-        }
-
-        /** RECIPROCAL of an x that is not 0, to inverse. */
-        private boolean reciprocal(Num x) {
-            over = false;
-            turned.become(x.a, x.b, less(0, x.c), less(0, x.e), 1);
-            factor.become(x.a, x.b, x.c, x.e, 1);
-            if (over || !product(factor, turned, factor)) {
-                return false;
-            }
-            // T is the product of N and N with its root's sign changed, both sums of two squares:
-            // it is above 0 for all but 0, so no signs have to be changed for it.
-            long t = less(times(factor.a, factor.a), thrice(factor.b, factor.b));
-            factor.become(factor.a, less(0, factor.b), 0, 0, 1);
-            if (over || !product(turned, factor, inverse)) {
-                return false;
-            }
-            factor.become(x.d, 0, 0, 0, 1);
-            return product(inverse, factor, inverse)
-                    && deliver(inverse, inverse.a, inverse.b, inverse.c, inverse.e, t);
         }
 
         private boolean deliver(Num to, long a, long b, long c, long e, long d) {
@@ -714,7 +719,7 @@ public final class RotorBalancer {
         private long times(long x, long y) {
             long r = x * y;
             // The least long by -1 is itself again in this language, so that pair is asked for by name.
-            if (y != 0 && (r / y != x || y == -1 && x == Long.MIN_VALUE)) {
+            if (y != 0 && (r / y != x || y == -1 && x == LEAST_LONG)) {
                 over = true;
             }
             return r;
@@ -789,9 +794,15 @@ public final class RotorBalancer {
             return (lawfulBits[plane] >> angle & 1) != 0;
         }
 
-        /** Whether a HOLE may be made there. */
-        boolean isOpen(int plane, int angle) {
-            return isLawful(plane, angle) && sizeAt(plane, angle) == 0;
+        /** ANGLES where a HOLE may be made. */
+        int openBits(int plane) {
+            int bits = lawfulBits[plane];
+            for (int k = 0; k < ANGLES; k++) {
+                if (sizeAt(plane, k) != 0) {
+                    bits &= ~(1 << k);
+                }
+            }
+            return bits;
         }
 
         int sizeBits() {
@@ -824,8 +835,7 @@ public final class RotorBalancer {
 
     /** BEARINGS and TRIALS. Pulls are below 1000 and GAINS below 10, so only a quotient is ever asked whether it is OVER. */
     private static final class Bearings {
-        private final Ring ring;
-        private final Rotor rotor;
+        private final Ring ring = new Ring();
         /** GAIN and LAG of PLANE p in BEARING b at 2 (2 b + p) and behind it. */
         private final int[] settings = new int[2 * PLANES * BEARINGS];
         private final boolean[] kept = new boolean[TRIALS];
@@ -838,9 +848,7 @@ public final class RotorBalancer {
         private final Num determinant = new Num();
         private final Num other = new Num();
 
-        Bearings(Ring ring, Rotor rotor) {
-            this.ring = ring;
-            this.rotor = rotor;
+        Bearings() {
             for (int i = 0; i < readings.length; i++) {
                 readings[i] = new Num();
             }
@@ -889,17 +897,17 @@ public final class RotorBalancer {
             return readings[BEARINGS * k + b];
         }
 
-        void run(int k, int moment, int angle) {
+        void run(Rotor rotor, int k, int moment, int angle) {
             if (k > 0) {
                 weights[k].becomeWay(moment, angle);
             }
             for (int b = 0; b < BEARINGS; b++) {
-                takeReading(k, b, readingOf(k, b));
+                takeReading(rotor, k, b, readingOf(k, b));
             }
             kept[k] = true;
         }
 
-        private void takeReading(int k, int b, Num to) {
+        private void takeReading(Rotor rotor, int k, int b, Num to) {
             to.become(0, 0, 0, 0, 1);
             for (int plane = 0; plane < PLANES; plane++) {
                 rotor.takePullBy20(plane, pull);
@@ -948,11 +956,11 @@ public final class RotorBalancer {
 
     /** QUIET, and FEWEST: sets of so many HOLES are gone through in their order, few HOLES first. */
     private static final class Search {
-        private final Ring ring;
-        private final Rotor rotor;
+        private final Ring ring = new Ring();
         private final int[] sizes = new int[MOST_SIZES];
         private int sizeCount;
-        private int plane;
+        private int openBits;
+        private int reach;
         private int wanted;
         /** What is left of the PULL behind so many HOLES, by 20. */
         private final Num[] pulls = new Num[MOST_NEW_HOLES + 1];
@@ -964,24 +972,23 @@ public final class RotorBalancer {
         private long bestWhole;
         private long bestRoots;
 
-        Search(Ring ring, Rotor rotor) {
-            this.ring = ring;
-            this.rotor = rotor;
+        Search() {
             for (int i = 0; i < pulls.length; i++) {
                 pulls[i] = new Num();
             }
         }
 
-        boolean isQuiet(int ofPlane) {
-            rotor.takePullBy20(ofPlane, pulls[0]);
+        boolean isQuiet(Rotor rotor, int plane) {
+            rotor.takePullBy20(plane, pulls[0]);
             return isWithin(pulls[0], rotor.reach());
         }
 
-        void run(int inPlane, int most) {
-            plane = inPlane;
-            bestCount = NONE;
-            listSizes();
+        void run(Rotor rotor, int plane, int most) {
+            listSizes(rotor.sizeBits());
+            openBits = rotor.openBits(plane);
+            reach = rotor.reach();
             rotor.takePullBy20(plane, pulls[0]);
+            bestCount = NONE;
             for (int n = 0; n <= most && bestCount == NONE; n++) {
                 wanted = n;
                 extend(this, 0, 0);
@@ -1010,10 +1017,10 @@ public final class RotorBalancer {
             return bestSizes[i];
         }
 
-        private void listSizes() {
+        private void listSizes(int bits) {
             sizeCount = 0;
             for (int size = 1; size <= MOST_SIZE; size++) {
-                if ((rotor.sizeBits() >> size & 1) != 0 && sizeCount < MOST_SIZES) {
+                if ((bits >> size & 1) != 0 && sizeCount < MOST_SIZES) {
                     sizes[sizeCount] = size;
                     sizeCount++;
                 }
@@ -1023,7 +1030,8 @@ public final class RotorBalancer {
         /** Goes through all sets that begin with the first so many HOLES as they are, and go on at ANGLE from. */
         private static void extend(Search x, int depth, int from) {
             int left = x.wanted - depth;
-            if (depth > MOST_NEW_HOLES || !x.canBecomeQuiet(depth, left)) {
+            if (depth > MOST_NEW_HOLES || !x.isWithin(x.pulls[depth], x.reach + left * x.mostSize())) {
+                // A HOLE takes no more than its SIZE away: what is farther off than that is never QUIET.
                 return;
             }
             if (left <= 0) {
@@ -1031,11 +1039,15 @@ public final class RotorBalancer {
                 return;
             }
             for (int angle = from; angle <= ANGLES - left; angle++) {
-                for (int i = 0; i < x.sizeCount && x.rotor.isOpen(x.plane, angle); i++) {
+                for (int i = 0; i < x.sizeCount && (x.openBits >> angle & 1) != 0; i++) {
                     x.choose(depth, angle, x.sizes[i]);
                     extend(x, depth + 1, angle + 1);
                 }
             }
+        }
+
+        private int mostSize() {
+            return sizeCount > 0 ? sizes[sizeCount - 1] : 0;
         }
 
         private void choose(int depth, int angle, int size) {
@@ -1043,12 +1055,6 @@ public final class RotorBalancer {
             chosen[depth] = size;
             pulls[depth + 1].take(pulls[depth]);
             pulls[depth + 1].addWay(-MOST_PLACE * size, angle);
-        }
-
-        /** A HOLE takes no more than its SIZE away, so what is farther off than that never becomes QUIET. */
-        private boolean canBecomeQuiet(int depth, int left) {
-            int most = sizeCount > 0 ? sizes[sizeCount - 1] : 0;
-            return isWithin(pulls[depth], rotor.reach() + left * most);
         }
 
         private void keepIfBetter() {
@@ -1083,16 +1089,10 @@ public final class RotorBalancer {
 
     /** SPLIT of a MOMENT over the LAWFUL neighbours of an ANGLE. */
     private static final class Splitter {
-        private final Ring ring;
         private int down;
         private int up;
         private final Num atDown = new Num();
         private final Num atUp = new Num();
-        private final Num factor = new Num();
-
-        Splitter(Ring ring) {
-            this.ring = ring;
-        }
 
         /** False: there is none. */
         boolean share(int lawfulBits, int angle, int moment) {
@@ -1146,11 +1146,19 @@ public final class RotorBalancer {
             return ANGLES;
         }
 
-        /** The MOMENT times S of part by S of whole; whole is 2 to 5, so its S is not 0. */
-        private void apportion(int moment, int part, int whole, Num to) {
-            to.become((long) moment * SPANS[2 * part], (long) moment * SPANS[2 * part + 1], 0, 0, 1);
-            factor.become(SPANS[2 * whole], SPANS[2 * whole + 1], 0, 0, 1);
-            ring.quotient(to, factor, to);
+        /** The MOMENT times S of part by S of whole, which is 2 to 5: ROOT, 2, ROOT, 1. */
+        private static void apportion(int moment, int part, int whole, Num to) {
+            int a = moment * SPANS[2 * part];
+            int b = moment * SPANS[2 * part + 1];
+            if (whole == 5) {
+                to.become(a, b, 0, 0, 1);
+            } else if (whole == 3) {
+                to.become(a, b, 0, 0, 2);
+            } else {
+                // By ROOT is times ROOT by 3.
+                to.become(3 * b, a, 0, 0, 3);
+            }
+            to.shorten();
         }
     }
 
