@@ -245,7 +245,7 @@ public final class RotorBalancer {
         if (isOutside(k, TRIALS) || k != 0 && (isNoMoment(moment) || isOutside(angle, ANGLES))) {
             return BAD;
         }
-        bearings.run(rotor, k, moment, angle);
+        bearings.runTrial(rotor, k, moment, angle);
         return bearings.keptTrials();
     }
 
@@ -290,7 +290,7 @@ public final class RotorBalancer {
         if (isOutside(plane, PLANES) || isOutside(n, MOST_NEW_HOLES + 1) || isOutside(what, 3)) {
             return BAD;
         }
-        search.run(rotor, plane, n);
+        search.seek(rotor, plane, n);
         return search.told(what);
     }
 
@@ -298,7 +298,7 @@ public final class RotorBalancer {
         if (isOutside(plane, PLANES) || isOutside(n, MOST_NEW_HOLES + 1)) {
             return BAD;
         }
-        search.run(rotor, plane, n);
+        search.seek(rotor, plane, n);
         int holes = search.told(0);
         if (holes == NONE) {
             return NOT;
@@ -474,7 +474,7 @@ public final class RotorBalancer {
             h = 31 * h + split(plane, k, 5, 0);
             h = 31 * h + split(plane, k, 5, 4);
         }
-        search.run(rotor, plane, 2);
+        search.seek(rotor, plane, 2);
         for (int what = 0; what < 3; what++) {
             h = 31 * h + search.told(what);
         }
@@ -675,8 +675,8 @@ public final class RotorBalancer {
 
         /** SIGN of a and b ROOTS, or OVER: the squares are looked at only if the signs are unlike. */
         int sign(long a, long b) {
-            int ofA = Long.compare(a, 0);
-            int ofB = Long.compare(b, 0);
+            int ofA = Long.signum(a);
+            int ofB = Long.signum(b);
             if (ofA == ofB || ofB == 0) {
                 return ofA;
             }
@@ -833,7 +833,10 @@ public final class RotorBalancer {
         }
     }
 
-    /** BEARINGS and TRIALS. Pulls are below 1000 and GAINS below 10, so only a quotient is ever asked whether it is OVER. */
+    /**
+     * BEARINGS and TRIALS. PULLS are below 1000 and GAINS below 10, so that READINGS are far from where
+     * longs end and are taken without asking whether a sum is OVER.
+     */
     private static final class Bearings {
         private final Ring ring = new Ring();
         /** GAIN and LAG of PLANE p in BEARING b at 2 (2 b + p) and behind it. */
@@ -897,7 +900,7 @@ public final class RotorBalancer {
             return readings[BEARINGS * k + b];
         }
 
-        void run(Rotor rotor, int k, int moment, int angle) {
+        void runTrial(Rotor rotor, int k, int moment, int angle) {
             if (k > 0) {
                 weights[k].becomeWay(moment, angle);
             }
@@ -983,7 +986,7 @@ public final class RotorBalancer {
             return isWithin(pulls[0], rotor.reach());
         }
 
-        void run(Rotor rotor, int plane, int most) {
+        void seek(Rotor rotor, int plane, int most) {
             listSizes(rotor.sizeBits());
             openBits = rotor.openBits(plane);
             reach = rotor.reach();

@@ -85,6 +85,9 @@ public final class HolesTest {
         RotorBalancer x = withLumps(0, 22, 4, 0, 2, 3, 1, 7);
         dueFewest("2 at 3 is 2 at 1 and 2 at 5, 1 at 7 takes 1 of it: 1 is before 3", x, 4, 3, 1 | 2 | 32, 412);
         dueFewest("two are too few", x, 2, Check.NONE, 0, 0);
+        x = withLumps(0, 16, 8, 0);
+        dueFewest("one at each angle", x, 2, Check.NONE, 0, 0);
+        dueFewest("one at each angle", x, 3, 3, 1 | 4 | 1024, 444);
         x = withLumps(0, 512, 9, 0, 9, 1, 9, 2, 9, 3);
         dueFewest("four", x, 4, 4, 15, 9999);
         dueFewest("three are too few", x, 3, Check.NONE, 0, 0);

@@ -204,6 +204,18 @@ public final class RotorTest {
         x.lump(1, 5, 10);
         Check.duePull("2 less ROOT", x, 1, 2, -1, 1, 0, 2, 2, -1, 0, 0, 1);
         Check.due("below 1", x.quiet(1), 1);
+        x = new RotorBalancer();
+        x.lump(1, 3, 10);
+        x.lump(1, 2, 10);
+        Check.duePull("2 and ROOT out of turned ones", x, 1, 1, 0, 2, 1, 2, 2, 1, 0, 0, 1);
+        Check.due("above 1", x.quiet(1), 0);
+        x.unlump();
+        x.lump(1, 10, 10);
+        Check.duePull("2 less ROOT out of turned ones", x, 1, 1, 0, 2, -1, 2, 2, -1, 0, 0, 1);
+        Check.due("below 1", x.quiet(1), 1);
+        x = new RotorBalancer();
+        x.lump(1, 0, 10);
+        x.lump(1, 5, 10);
         x.limit(0);
         Check.due("above 0", x.quiet(1), 0);
         Check.due("0", x.quiet(0), 1);

@@ -22,6 +22,7 @@ public final class SheetsTest {
         Check.due("40", x.sheet(0, 40), 40);
         Check.due("0", x.sheet(3, 0), 0);
         Check.due("there are none", x.get(3, 0), Check.asLong(Check.INDEX));
+        x.lay(0, 0, 9, 0);
         x.lay(0, 5, 9, 0);
         x.lay(0, 39, 9, 0);
         Check.due("a new row", x.sheet(0, 6), 6);
@@ -259,6 +260,13 @@ public final class SheetsTest {
         long first = x.digest();
         Check.due("full", first, digestByCalls(x));
         Check.due("the same again", x.digest(), first);
+        RotorBalancer three = new RotorBalancer();
+        three.lump(4, 0, 10);
+        three.lump(2, 3, 10);
+        three.lump(1, 7, 10);
+        three.limit(0);
+        Check.due("three holes would do", three.fewest(1, 3, 0), 3);
+        Check.due("two do not", three.digest(), digestByCalls(three));
         x.sheet(0, 4);
         x.lay(0, 0, 9, 9);
         x.get(0, 9);
