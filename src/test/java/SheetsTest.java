@@ -211,39 +211,9 @@ public final class SheetsTest {
         Check.due("nothing else changed", x.digest(), before);
     }
 
-    /** What the document lists, one by one, by the calls themselves. */
-    private static long digestByCalls(RotorBalancer x) {
-        long h = 17;
-        for (int what = 0; what <= 7; what++) {
-            h = 31 * h + x.count(what);
-        }
-        for (int r = 0; r < 6; r++) {
-            for (int part = 0; part < 5; part++) {
-                h = 31 * h + x.part(r, part);
-            }
-        }
-        for (int plane = 0; plane < 2; plane++) {
-            for (int part = 0; part < 10; part++) {
-                h = 31 * h + x.pull(plane, part);
-            }
-            for (int k = 0; k < 12; k++) {
-                h = 31 * h + x.hole(plane, k);
-                h = 31 * h + x.split(plane, k, 5, 0);
-                h = 31 * h + x.split(plane, k, 5, 4);
-            }
-            for (int what = 0; what < 3; what++) {
-                h = 31 * h + x.fewest(plane, 2, what);
-            }
-        }
-        for (int i = 0; i < 30; i++) {
-            h = 31 * h + x.reading(i / 10, i / 5 % 2, i % 5);
-        }
-        return h;
-    }
-
     private static void digest() {
         RotorBalancer x = new RotorBalancer();
-        Check.due("new", x.digest(), digestByCalls(x));
+        Check.due("new", x.digest(), Edges.digestByCalls(x));
         x = new RotorBalancer();
         x.put(0, 1, -2, 3, -4, 5);
         x.put(5, 6, 7, 8, 9, 10);
@@ -258,7 +228,7 @@ public final class SheetsTest {
         x.trial(0, 0, 0);
         x.trial(2, 3, 4);
         long first = x.digest();
-        Check.due("full", first, digestByCalls(x));
+        Check.due("full", first, Edges.digestByCalls(x));
         Check.due("the same again", x.digest(), first);
         RotorBalancer three = new RotorBalancer();
         three.lump(4, 0, 10);
@@ -266,7 +236,7 @@ public final class SheetsTest {
         three.lump(1, 7, 10);
         three.limit(0);
         Check.due("three holes would do", three.fewest(1, 3, 0), 3);
-        Check.due("two do not", three.digest(), digestByCalls(three));
+        Check.due("two do not", three.digest(), Edges.digestByCalls(three));
         x.sheet(0, 4);
         x.lay(0, 0, 9, 9);
         x.get(0, 9);
