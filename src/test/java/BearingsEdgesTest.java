@@ -131,7 +131,8 @@ public final class BearingsEdgesTest {
     private static void othersKeep() {
         List<Consumer<RotorBalancer>> acts = List.of(
                 x -> x.lawful(0, 0), x -> x.sizes(2), x -> x.limit(0), x -> x.put(0, 1, 1, 1, 1, 1), x -> x.sheet(3, 1),
-                x -> x.found(0, 0), x -> x.effect(0, 0, 0), x -> x.fewest(0, 3, 0), x -> x.digest(), x -> x.trial(0, 0, 0));
+                x -> x.found(0, 0), x -> x.effect(0, 0, 0), x -> x.fewest(0, 3, 0), x -> x.digest(),
+                x -> x.trial(0, 0, 0));
         for (Consumer<RotorBalancer> act : acts) {
             RotorBalancer x = Edges.busy();
             long before = x.reading(2, 1, 0);
@@ -274,16 +275,21 @@ public final class BearingsEdgesTest {
 
     // Promise 19 with Terms: "times the WAY of LAG": 0 to 11, from where the PULL is on round.
     private static void readingLags() {
-        for (int lag = 0; lag < 12; lag++) {
+        for (int i = 0; i < 48; i++) {
+            int b = i / 2 % 2;
+            int p = i % 2;
+            int lag = i / 4;
             RotorBalancer x = new RotorBalancer();
-            x.lump(3, 5, 0);
-            x.bearing(0, 0, 0, 1);
-            x.bearing(0, 0, 1, lag);
+            x.lump(3, 5, 10 * p);
+            x.bearing(b, p, 0, 1);
+            x.bearing(b, p, 1, lag);
+            x.bearing(b, 1 - p, 1, 7);
+            x.bearing(1 - b, p, 1, 8);
             x.trial(0, 0, 0);
             RotorBalancer turned = new RotorBalancer();
             turned.lump(3, (5 + lag) % 12, 0);
             for (int part = 0; part < 5; part++) {
-                Check.due("LAG " + lag, x.reading(0, 0, part), turned.pull(0, part));
+                Check.due("LAG " + lag, x.reading(0, b, part), turned.pull(0, part));
             }
         }
     }
@@ -380,9 +386,9 @@ public final class BearingsEdgesTest {
                 x.lump(99, 1, i % 2 == 0 ? 7 : 9);
             }
             for (int i = 0; i < 4; i++) {
-                x.bearing(i / 2, i % 2, 0, i == 3 ? 8 : 9);
+                x.bearing(i / 2, i % 2, 0, 9 - i);
+                x.bearing(i / 2, i % 2, 1, i == 0 ? lag : i);
             }
-            x.bearing(0, 1, 1, lag);
             x.trial(0, 0, 0);
             x.trial(1, 97, 11);
             x.trial(2, 98, 5);
@@ -446,7 +452,8 @@ public final class BearingsEdgesTest {
         }
     }
 
-    // Promise 21: "EFFECT of a PLANE on a BEARING comes to a REGISTER": of GAINS 0 and 9, LAGS 0 to 11, at all ANGLES.
+    // Promise 21: "EFFECT of a PLANE on a BEARING comes to a REGISTER": of GAINS 0 and 9, LAGS 0 to 11, at all ANGLES;
+    // "OVER": none of these comes near to it.
     private static void effectEnds() {
         for (int lag = 0; lag < 12; lag++) {
             RotorBalancer x = new RotorBalancer();

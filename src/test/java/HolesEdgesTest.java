@@ -303,7 +303,8 @@ public final class HolesEdgesTest {
 
     private static void dueSplit(String what, RotorBalancer x, int angle, int moment, int... want) {
         for (int i = 0; i < 8; i++) {
-            Check.due(what + ": split(0, " + angle + ", " + moment + ", " + i + ")", x.split(0, angle, moment, i), want[i]);
+            String call = what + ": split(0, " + angle + ", " + moment + ", " + i + ")";
+            Check.due(call, x.split(0, angle, moment, i), want[i]);
         }
     }
 
@@ -351,6 +352,9 @@ public final class HolesEdgesTest {
             dueSplit("LAWFUL alone", lawfulAt(k), k, 99, k, 99, 0, 1, Check.NONE, 0, 0, 1);
             dueSplit("all LAWFUL", new RotorBalancer(), k, 1, k, 1, 0, 1, Check.NONE, 0, 0, 1);
         }
+        RotorBalancer x = lawfulAt(3, 6);
+        dueSplit("not LAWFUL", x, 4, 9, 3, 0, 9, 2, 6, 9, 0, 2);
+        dueSplit("LAWFUL, behind that", x, 6, 9, 6, 9, 0, 1, Check.NONE, 0, 0, 1);
     }
 
     // Promise 24 with Terms: "going down from k (11 behind 0), UP going up; .. (0 behind 11)".

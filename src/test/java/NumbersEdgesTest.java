@@ -33,6 +33,7 @@ public final class NumbersEdgesTest {
         sumWaysOver();
         dividersOver();
         overBeforeLowestTerms();
+        overThenNot();
         productTermsOver();
         productSumsOver();
         productOrder();
@@ -222,7 +223,8 @@ public final class NumbersEdgesTest {
             Edges.refused("reckon: t " + bad, Check.BAD, x -> x.reckon(SUM, 0, 1, bad));
             Edges.refused("reckon: BAD before ZERO", Check.BAD, x -> x.reckon(QUOTIENT, bad, 3, 0));
             Edges.refused("reckon: BAD before ZERO", Check.BAD, x -> x.reckon(QUOTIENT, 0, 3, bad));
-            Edges.refused("reckon: BAD before OVER", () -> holding(MOST, MOST), Check.BAD, x -> x.reckon(SUM, 0, 1, bad));
+            Edges.refused("reckon: BAD before OVER", () -> holding(MOST, MOST), Check.BAD,
+                    x -> x.reckon(SUM, 0, 1, bad));
         }
     }
 
@@ -387,7 +389,8 @@ public final class NumbersEdgesTest {
         RotorBalancer x = beyondMost();
         Check.due("d d is 2 to the 62", x.reckon(SUM, 0, 0, 2), 1);
         Check.dueNumber("d d is 2 to the 62", x, 2, 1, 0, 0, 0, 1 << 30);
-        Edges.refused("0, but d d is 2 to the 64", NumbersEdgesTest::beyondMost, Check.OVER, y -> y.reckon(DIFFERENCE, 1, 1, 2));
+        Edges.refused("0, but d d is 2 to the 64", NumbersEdgesTest::beyondMost, Check.OVER,
+                y -> y.reckon(DIFFERENCE, 1, 1, 2));
         Edges.refused("9 times 2 to the 60, by 6", () -> thirds(9), Check.OVER, y -> y.reckon(PRODUCT, 0, 1, 2));
         x = thirds(3);
         Check.due("3 times 2 to the 60, by 6", x.reckon(PRODUCT, 0, 1, 2), 1);
@@ -400,6 +403,33 @@ public final class NumbersEdgesTest {
         x.put(1, 1, 0, 0, 0, 3);
         x.reckon(PRODUCT, 0, 1, 0);
         x.put(1, halves, 0, 0, 0, 2);
+        return x;
+    }
+
+    // Promise 4 with "They change nothing": what is OVER is no matter to the next call.
+    private static void overThenNot() {
+        for (int first = 0; first < 6; first++) {
+            for (int next = SUM; next <= QUOTIENT; next++) {
+                RotorBalancer x = afterOver(first);
+                x.put(3, 6, 0, 0, 0, 1);
+                x.put(4, 2, 0, 0, 0, 1);
+                Check.due("behind what is OVER", x.reckon(next, 3, 4, 2), 1);
+                int[] want = {8, 4, 12, 3};
+                Check.dueNumber("behind what is OVER", x, 2, want[next], 0, 0, 0, 1);
+            }
+            Check.due("behind what is OVER", afterOver(first).compare(3, 4), 0);
+            RotorBalancer x = afterOver(first);
+            x.put(3, 7, -4, 0, 0, 1);
+            Check.due("behind what is OVER", x.compare(3, 4), 1);
+        }
+    }
+
+    /** Four acts of reckon are OVER, or a DIFFERENCE, a square in compare; REGISTERS 3, 4 are 0. */
+    private static RotorBalancer afterOver(int act) {
+        long other = act == DIFFERENCE || act == 4 ? -MOST : MOST;
+        RotorBalancer x = holding(new long[] {MOST, -1, 0, 0}, new long[] {other, 0, 0, 0});
+        int answer = act < 4 ? x.reckon(act, 0, 1, 2) : act == 4 ? x.compare(0, 1) : x.compare(0, 2);
+        Check.due("OVER", answer, Check.OVER);
         return x;
     }
 
@@ -542,7 +572,8 @@ public final class NumbersEdgesTest {
         x.put(1, 1290, 0, 0, 0, Edges.MOST);
         Check.due("1290 to the third by most", x.reckon(QUOTIENT, 0, 1, 2), 1);
         Check.dueNumber("1290 to the third by most", x, 2, Edges.MOST, 0, 0, 0, 1290);
-        Edges.refused("1626 to the third by most", NumbersEdgesTest::withDivider, Check.OVER, y -> y.reckon(QUOTIENT, 0, 1, 2));
+        Edges.refused("1626 to the third by most", NumbersEdgesTest::withDivider, Check.OVER,
+                y -> y.reckon(QUOTIENT, 0, 1, 2));
     }
 
     private static RotorBalancer withDivider() {
@@ -648,7 +679,9 @@ public final class NumbersEdgesTest {
 
     // Promise 6 with Terms: "else that of a, if a a is more than 3 b b, else that of b".
     private static void compareUnlikeSigns() {
-        int[][] near = {{2, 1, 1}, {1, 1, -1}, {7, 4, 1}, {5, 3, -1}, {97, 56, 1}, {71, 41, -1}, {1351, 780, 1}, {989, 571, -1}};
+        int[][] near = {
+            {2, 1, 1}, {1, 1, -1}, {7, 4, 1}, {5, 3, -1}, {97, 56, 1}, {71, 41, -1}, {1351, 780, 1}, {989, 571, -1}
+        };
         for (int[] v : near) {
             RotorBalancer x = holding(new long[] {v[0], -v[1], 0, 0}, new long[] {-v[0], v[1], 0, 0});
             Check.due(v[0] + " less roots", x.compare(0, 4), v[2]);

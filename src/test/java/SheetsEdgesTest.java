@@ -294,8 +294,10 @@ public final class SheetsEdgesTest {
 
     // Promise 30: "(with n 0, too, if i or j is above how many there are)".
     private static void copyNone() {
-        int[][] bad = {{0, 6, 2, 0, 0}, {0, 0, 2, 41, 0}, {2, 41, 0, 0, 0}, {2, 0, 0, 6, 0}, {1, 1, 0, 0, 0}, {0, 0, 1, 1, 0},
-            {0, Edges.MOST, 2, 0, 0}, {0, 0, 2, Edges.MOST, 0}};
+        int[][] bad = {
+            {0, 6, 2, 0, 0}, {0, 0, 2, 41, 0}, {2, 41, 0, 0, 0}, {2, 0, 0, 6, 0}, {1, 1, 0, 0, 0}, {0, 0, 1, 1, 0},
+            {0, Edges.MOST, 2, 0, 0}, {0, 0, 2, Edges.MOST, 0}
+        };
         for (int[] v : bad) {
             Edges.refused("copy: none, above", Check.INDEX, x -> x.copy(v[0], v[1], v[2], v[3], v[4]));
         }
