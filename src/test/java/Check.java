@@ -10,6 +10,12 @@ final class Check {
     static final int INDEX = -12;
     static final int SIZE = -13;
 
+    /** a, b, c, e of the WAY of each ANGLE, each by 2. */
+    static final int[][] WAYS = {
+        {2, 0, 0, 0}, {0, 1, 1, 0}, {1, 0, 0, 1}, {0, 0, 2, 0}, {-1, 0, 0, 1}, {0, -1, 1, 0},
+        {-2, 0, 0, 0}, {0, -1, -1, 0}, {-1, 0, 0, -1}, {0, 0, -2, 0}, {1, 0, 0, -1}, {0, 1, -1, 0}
+    };
+
     private static int looked = 0;
     private static int wrong = 0;
 
@@ -49,6 +55,32 @@ final class Check {
         for (int part = 0; part < 5; part++) {
             due(what + ": reading(" + k + ", " + b + ", " + part + ")", x.reading(k, b, part), want[part]);
         }
+    }
+
+    /** What fewest answers of PLANE 1. */
+    static void dueFewest(String what, RotorBalancer x, int n, int holes, int bits, int figures) {
+        due(what + ": holes", x.fewest(1, n, 0), holes);
+        due(what + ": angles", x.fewest(1, n, 1), bits);
+        due(what + ": sizes", x.fewest(1, n, 2), figures);
+    }
+
+    /** What split answers of PLANE 0. */
+    static void dueSplit(String what, RotorBalancer x, int angle, int moment, int... want) {
+        for (int i = 0; i < 8; i++) {
+            String call = what + ": split(0, " + angle + ", " + moment + ", " + i + ")";
+            due(call, x.split(0, angle, moment, i), want[i]);
+        }
+    }
+
+    /** LUMPS at PLANE 1: MOMENT and ANGLE by turns. */
+    static RotorBalancer withLumps(int limit, int sizes, int... lumps) {
+        RotorBalancer x = new RotorBalancer();
+        x.limit(limit);
+        x.sizes(sizes);
+        for (int i = 0; i < lumps.length; i += 2) {
+            x.lump(lumps[i], lumps[i + 1], 10);
+        }
+        return x;
     }
 
     /** A REGISTER becomes what longs it should hold, by way of a SHEET. */

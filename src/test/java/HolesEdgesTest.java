@@ -51,42 +51,25 @@ public final class HolesEdgesTest {
         }
     }
 
-    /** LUMPS at PLANE 1: MOMENT and ANGLE by turns. */
-    private static RotorBalancer with(int limit, int sizes, int... lumps) {
-        RotorBalancer x = new RotorBalancer();
-        x.limit(limit);
-        x.sizes(sizes);
-        for (int i = 0; i < lumps.length; i += 2) {
-            x.lump(lumps[i], lumps[i + 1], 10);
-        }
-        return x;
-    }
-
-    private static void dueFewest(String what, RotorBalancer x, int n, int holes, int bits, int figures) {
-        Check.due(what + ": holes", x.fewest(1, n, 0), holes);
-        Check.due(what + ": angles", x.fewest(1, n, 1), bits);
-        Check.due(what + ": sizes", x.fewest(1, n, 2), figures);
-    }
-
     // Promise 22: "(what = 0; NONE: no set), ANGLES .. (1; 0), their SIZES .. (2; 0)": 0 and 0, if there is no set.
     private static void fewestNone() {
-        dueFewest("too far for four", with(0, 512, 37, 0), 4, Check.NONE, 0, 0);
-        dueFewest("none are allowed", with(1, 22, 2, 0), 0, Check.NONE, 0, 0);
-        RotorBalancer x = with(1, 22, 2, 0);
+        Check.dueFewest("too far for four", Check.withLumps(0, 512, 37, 0), 4, Check.NONE, 0, 0);
+        Check.dueFewest("none are allowed", Check.withLumps(1, 22, 2, 0), 0, Check.NONE, 0, 0);
+        RotorBalancer x = Check.withLumps(1, 22, 2, 0);
         x.lawful(1, 0);
-        dueFewest("none is LAWFUL", x, 4, Check.NONE, 0, 0);
-        RotorBalancer full = with(0, 22, 90, 0);
+        Check.dueFewest("none is LAWFUL", x, 4, Check.NONE, 0, 0);
+        RotorBalancer full = Check.withLumps(0, 22, 90, 0);
         for (int k = 0; k < 12; k++) {
             full.drill(1, k, 9);
         }
-        dueFewest("all have one", full, 4, Check.NONE, 0, 0);
+        Check.dueFewest("all have one", full, 4, Check.NONE, 0, 0);
     }
 
     // Promise 22: no HOLES, if it is QUIET as it is: 0, no bits, no figures, whatever N.
     private static void fewestNoHoles() {
         for (int n = 0; n <= 4; n++) {
-            dueFewest("QUIET", with(3, 22, 3, 7), n, 0, 0, 0);
-            dueFewest("QUIET, none LAWFUL", with(0, 22), n, 0, 0, 0);
+            Check.dueFewest("QUIET", Check.withLumps(3, 22, 3, 7), n, 0, 0, 0);
+            Check.dueFewest("QUIET, none LAWFUL", Check.withLumps(0, 22), n, 0, 0, 0);
         }
     }
 
@@ -104,110 +87,110 @@ public final class HolesEdgesTest {
                 figures = 10 * figures + 9;
             }
             x.lawful(1, bits);
-            dueFewest(many + " are as many", x, many, many, bits, figures);
-            dueFewest("more are allowed", x, 4, many, bits, figures);
-            dueFewest("one too few", x, many - 1, Check.NONE, 0, 0);
+            Check.dueFewest(many + " are as many", x, many, many, bits, figures);
+            Check.dueFewest("more are allowed", x, 4, many, bits, figures);
+            Check.dueFewest("one too few", x, many - 1, Check.NONE, 0, 0);
         }
     }
 
     // Promise 22 with Terms: "with which it would be QUIET": at LIMIT, not above it by little.
     private static void fewestSquareAtLimit() {
-        RotorBalancer x = with(5, 16, 9, 0);
+        RotorBalancer x = Check.withLumps(5, 16, 9, 0);
         x.lawful(1, 1);
-        dueFewest("5 is left", x, 1, 1, 1, 4);
+        Check.dueFewest("5 is left", x, 1, 1, 1, 4);
         x.limit(4);
-        dueFewest("5 is above", x, 1, Check.NONE, 0, 0);
-        x = with(41, 2, 83, 0, 71, 5);
+        Check.dueFewest("5 is above", x, 1, Check.NONE, 0, 0);
+        x = Check.withLumps(41, 2, 83, 0, 71, 5);
         x.lawful(1, 1);
-        dueFewest("above by 0.0002", x, 1, Check.NONE, 0, 0);
-        x = with(41, 4, 83, 0, 71, 5);
+        Check.dueFewest("above by 0.0002", x, 1, Check.NONE, 0, 0);
+        x = Check.withLumps(41, 4, 83, 0, 71, 5);
         x.lawful(1, 1);
-        dueFewest("below", x, 1, 1, 1, 2);
+        Check.dueFewest("below", x, 1, 1, 1, 2);
     }
 
     // Promise 22 with Terms: "those with fewest HOLES; of these the one with the least SQUARE".
     private static void fewestLeastSquare() {
-        dueFewest("one that leaves 3, though two leave less", with(3, 8 | 32, 8, 4), 4, 1, 16, 5);
-        dueFewest("one leaves more than 2", with(2, 8 | 32, 8, 4), 4, 2, 8 | 32, 55);
-        dueFewest("of 1, 2, 4 all would do", with(9, 22, 10, 4), 4, 1, 16, 4);
-        dueFewest("too large leaves more", with(4, 22, 5, 4), 4, 1, 16, 4);
-        dueFewest("2 at 4 leaves less than 4", with(2, 22, 3, 4), 4, 1, 16, 2);
+        Check.dueFewest("one that leaves 3, though two leave less", Check.withLumps(3, 8 | 32, 8, 4), 4, 1, 16, 5);
+        Check.dueFewest("one leaves more than 2", Check.withLumps(2, 8 | 32, 8, 4), 4, 2, 8 | 32, 55);
+        Check.dueFewest("of 1, 2, 4 all would do", Check.withLumps(9, 22, 10, 4), 4, 1, 16, 4);
+        Check.dueFewest("too large leaves more", Check.withLumps(4, 22, 5, 4), 4, 1, 16, 4);
+        Check.dueFewest("2 at 4 leaves less than 4", Check.withLumps(2, 22, 3, 4), 4, 1, 16, 2);
     }
 
     // Promise 22 with Terms: "of like ones the first: .. the lesser ANGLE first".
     private static void fewestLesserAngle() {
         for (int k = 1; k < 11; k++) {
-            RotorBalancer x = with(2, 4, 3, k);
+            RotorBalancer x = Check.withLumps(2, 4, 3, k);
             x.lawful(1, 4095 - (1 << k));
-            dueFewest("before and behind " + k, x, 4, 1, 1 << k - 1, 2);
+            Check.dueFewest("before and behind " + k, x, 4, 1, 1 << k - 1, 2);
         }
-        RotorBalancer x = with(2, 4, 3, 0);
+        RotorBalancer x = Check.withLumps(2, 4, 3, 0);
         x.lawful(1, 2 | 2048);
-        dueFewest("1 and 11", x, 4, 1, 2, 2);
-        x = with(2, 4, 3, 11);
+        Check.dueFewest("1 and 11", x, 4, 1, 2, 2);
+        x = Check.withLumps(2, 4, 3, 11);
         x.lawful(1, 1 | 1024);
-        dueFewest("0 and 10", x, 4, 1, 1, 2);
+        Check.dueFewest("0 and 10", x, 4, 1, 1, 2);
     }
 
     // Promise 22 with Terms: "HOLES by ANGLES, set against each other one by one": of sets with like SQUARES.
     private static void fewestOneByOne() {
-        RotorBalancer x = with(1, 2 | 4 | 32, 2, 1);
+        RotorBalancer x = Check.withLumps(1, 2 | 4 | 32, 2, 1);
         x.lawful(1, 4 | 128 | 1024 | 2048);
-        dueFewest("2 at 2, and 1 at 10 or 11", x, 3, 2, 4 | 1024, 21);
-        x = with(2, 2 | 16 | 32, 5, 11);
+        Check.dueFewest("2 at 2, and 1 at 10 or 11", x, 3, 2, 4 | 1024, 21);
+        x = Check.withLumps(2, 2 | 16 | 32, 5, 11);
         x.lawful(1, 1 | 16 | 512 | 1024);
-        dueFewest("4 at 0, and 1 or 4 at 9", x, 3, 2, 1 | 512, 41);
-        x = with(1, 2 | 4, 2, 9);
+        Check.dueFewest("4 at 0, and 1 or 4 at 9", x, 3, 2, 1 | 512, 41);
+        x = Check.withLumps(1, 2 | 4, 2, 9);
         x.lawful(1, 4 | 8 | 64 | 256 | 1024);
-        dueFewest("1 at 6 and 2 at 10, or 1 at 8 and 1 at 10", x, 3, 2, 64 | 1024, 12);
-        x = with(1, 4 | 16, 4, 11);
+        Check.dueFewest("1 at 6 and 2 at 10, or 1 at 8 and 1 at 10", x, 3, 2, 64 | 1024, 12);
+        x = Check.withLumps(1, 4 | 16, 4, 11);
         x.lawful(1, 1 | 16 | 64 | 256 | 1024);
-        dueFewest("2 at 0 and 2 at 10, or 4 at 0 and 2 at 8", x, 3, 2, 1 | 1024, 22);
+        Check.dueFewest("2 at 0 and 2 at 10, or 4 at 0 and 2 at 8", x, 3, 2, 1 | 1024, 22);
     }
 
     // Promise 22 with Terms: "of like ANGLES the lesser SIZE".
     private static void fewestLesserSize() {
         for (int size = 1; size <= 7; size++) {
-            RotorBalancer x = with(1, 1 << size | 1 << size + 2, size + 1, 5);
-            dueFewest("1 too little, 1 too much", x, 4, 1, 32, size);
+            RotorBalancer x = Check.withLumps(1, 1 << size | 1 << size + 2, size + 1, 5);
+            Check.dueFewest("1 too little, 1 too much", x, 4, 1, 32, size);
         }
-        dueFewest("2 too little, 2 too much, at 6", with(2, 4 | 64, 4, 6), 4, 1, 64, 2);
+        Check.dueFewest("2 too little, 2 too much, at 6", Check.withLumps(2, 4 | 64, 4, 6), 4, 1, 64, 2);
     }
 
     // Promise 22 with Terms: "at ANGLES that are LAWFUL and have none".
     private static void fewestFreeAngles() {
         for (int k = 0; k < 12; k++) {
-            RotorBalancer x = with(0, 512, 9, k);
-            dueFewest("LAWFUL", x, 1, 1, 1 << k, 9);
+            RotorBalancer x = Check.withLumps(0, 512, 9, k);
+            Check.dueFewest("LAWFUL", x, 1, 1, 1 << k, 9);
             x.lawful(1, 4095 - (1 << k));
-            dueFewest("not LAWFUL", x, 1, Check.NONE, 0, 0);
+            Check.dueFewest("not LAWFUL", x, 1, Check.NONE, 0, 0);
             x.lawful(1, 4095);
             x.lump(1, k, 10);
             x.drill(1, k, 1);
-            dueFewest("has one", x, 1, Check.NONE, 0, 0);
+            Check.dueFewest("has one", x, 1, Check.NONE, 0, 0);
             x.lawful(0, 0);
             x.fill(1, k);
             x.unlump();
-            dueFewest("filled; the other PLANE is no matter", x, 1, 1, 1 << k, 9);
+            Check.dueFewest("filled; the other PLANE is no matter", x, 1, 1, 1 << k, 9);
         }
     }
 
     // Promise 22: "ANGLES of them as bits": 0 and 11 together.
     private static void fewestFirstAndLastAngle() {
-        RotorBalancer x = with(0, 2 | 512, 9, 0, 1, 11);
-        dueFewest("0 and 11", x, 2, 2, 2049, 91);
-        x = with(0, 2 | 512, 1, 0, 9, 11);
-        dueFewest("0 and 11", x, 2, 2, 2049, 19);
+        RotorBalancer x = Check.withLumps(0, 2 | 512, 9, 0, 1, 11);
+        Check.dueFewest("0 and 11", x, 2, 2, 2049, 91);
+        x = Check.withLumps(0, 2 | 512, 1, 0, 9, 11);
+        Check.dueFewest("0 and 11", x, 2, 2, 2049, 19);
     }
 
     // Promise 22: "their SIZES, by ANGLES, as figures, the first the highest": one to four of them.
     private static void fewestFigures() {
-        dueFewest("one", with(0, 512, 9, 11), 4, 1, 2048, 9);
-        dueFewest("two", with(0, 8 | 512, 3, 1, 9, 2), 4, 2, 6, 39);
-        dueFewest("three", with(0, 8 | 64 | 512, 3, 11, 9, 0, 6, 1), 4, 3, 2051, 963);
-        RotorBalancer x = with(0, 8 | 64 | 512, 3, 0, 9, 1, 6, 2, 9, 3);
+        Check.dueFewest("one", Check.withLumps(0, 512, 9, 11), 4, 1, 2048, 9);
+        Check.dueFewest("two", Check.withLumps(0, 8 | 512, 3, 1, 9, 2), 4, 2, 6, 39);
+        Check.dueFewest("three", Check.withLumps(0, 8 | 64 | 512, 3, 11, 9, 0, 6, 1), 4, 3, 2051, 963);
+        RotorBalancer x = Check.withLumps(0, 8 | 64 | 512, 3, 0, 9, 1, 6, 2, 9, 3);
         x.lawful(1, 15);
-        dueFewest("four", x, 4, 4, 15, 3969);
+        Check.dueFewest("four", x, 4, 4, 15, 3969);
     }
 
     // Promise 23: "BAD", before "NOT".
@@ -234,14 +217,14 @@ public final class HolesEdgesTest {
             int most = n;
             Edges.refused("no such set", HolesEdgesTest::outOfReach, Check.NOT, x -> x.drillAll(1, most));
         }
-        Edges.refused("two would do", () -> with(0, 22, 1, 1, 4, 11), Check.NOT, x -> x.drillAll(1, 1));
-        Edges.refused("one would do", () -> with(1, 22, 2, 1), Check.NOT, x -> x.drillAll(1, 0));
+        Edges.refused("two would do", () -> Check.withLumps(0, 22, 1, 1, 4, 11), Check.NOT, x -> x.drillAll(1, 1));
+        Edges.refused("one would do", () -> Check.withLumps(1, 22, 2, 1), Check.NOT, x -> x.drillAll(1, 0));
     }
 
     // Promise 23: "how many": 0, if it is QUIET as it is.
     private static void drillAllNone() {
         for (int n = 0; n <= 4; n++) {
-            RotorBalancer x = with(3, 22, 3, 7);
+            RotorBalancer x = Check.withLumps(3, 22, 3, 7);
             Check.due("none", x.drillAll(1, n), 0);
             Check.due("none", x.count(2), 0);
         }
@@ -301,13 +284,6 @@ public final class HolesEdgesTest {
         return x;
     }
 
-    private static void dueSplit(String what, RotorBalancer x, int angle, int moment, int... want) {
-        for (int i = 0; i < 8; i++) {
-            String call = what + ": split(0, " + angle + ", " + moment + ", " + i + ")";
-            Check.due(call, x.split(0, angle, moment, i), want[i]);
-        }
-    }
-
     private static void dueNot(String what, int angle, int... lawful) {
         for (int i = 0; i < 8; i++) {
             int part = i;
@@ -349,44 +325,44 @@ public final class HolesEdgesTest {
     // Promise 24 with Terms: "if k is LAWFUL, all of it there"; "UP (4; NONE: all is at DOWN) .. (5 to 7; 0, 0, 1)".
     private static void splitLawful() {
         for (int k = 0; k < 12; k++) {
-            dueSplit("LAWFUL alone", lawfulAt(k), k, 99, k, 99, 0, 1, Check.NONE, 0, 0, 1);
-            dueSplit("all LAWFUL", new RotorBalancer(), k, 1, k, 1, 0, 1, Check.NONE, 0, 0, 1);
+            Check.dueSplit("LAWFUL alone", lawfulAt(k), k, 99, k, 99, 0, 1, Check.NONE, 0, 0, 1);
+            Check.dueSplit("all LAWFUL", new RotorBalancer(), k, 1, k, 1, 0, 1, Check.NONE, 0, 0, 1);
         }
         RotorBalancer x = lawfulAt(3, 6);
-        dueSplit("not LAWFUL", x, 4, 9, 3, 0, 9, 2, 6, 9, 0, 2);
-        dueSplit("LAWFUL, behind that", x, 6, 9, 6, 9, 0, 1, Check.NONE, 0, 0, 1);
+        Check.dueSplit("not LAWFUL", x, 4, 9, 3, 0, 9, 2, 6, 9, 0, 2);
+        Check.dueSplit("LAWFUL, behind that", x, 6, 9, 6, 9, 0, 1, Check.NONE, 0, 0, 1);
     }
 
     // Promise 24 with Terms: "going down from k (11 behind 0), UP going up; .. (0 behind 11)".
     private static void splitRound() {
-        dueSplit("down from 0 to 11", lawfulAt(11, 1), 0, 3, 11, 0, 1, 1, 1, 0, 1, 1);
-        dueSplit("up from 11 to 0", lawfulAt(10, 0), 11, 3, 10, 0, 1, 1, 0, 0, 1, 1);
-        dueSplit("down from 1 to 11", lawfulAt(11, 2), 1, 3, 11, 3, 0, 2, 2, 0, 3, 2);
-        dueSplit("up from 10 to 0", lawfulAt(9, 0), 10, 3, 9, 0, 3, 2, 0, 3, 0, 2);
-        dueSplit("down from 3 to 11, the nearest of more", lawfulAt(11, 8, 4, 5), 3, 3, 11, 3, 0, 1, 4, 0, 3, 1);
-        dueSplit("up from 8 to 0, the nearest of more", lawfulAt(7, 6, 0, 3), 8, 3, 7, 0, 3, 1, 0, 3, 0, 1);
+        Check.dueSplit("down from 0 to 11", lawfulAt(11, 1), 0, 3, 11, 0, 1, 1, 1, 0, 1, 1);
+        Check.dueSplit("up from 11 to 0", lawfulAt(10, 0), 11, 3, 10, 0, 1, 1, 0, 0, 1, 1);
+        Check.dueSplit("down from 1 to 11", lawfulAt(11, 2), 1, 3, 11, 3, 0, 2, 2, 0, 3, 2);
+        Check.dueSplit("up from 10 to 0", lawfulAt(9, 0), 10, 3, 9, 0, 3, 2, 0, 3, 0, 2);
+        Check.dueSplit("down from 3 to 11, the nearest of more", lawfulAt(11, 8, 4, 5), 3, 3, 11, 3, 0, 1, 4, 0, 3, 1);
+        Check.dueSplit("up from 8 to 0, the nearest of more", lawfulAt(7, 6, 0, 3), 8, 3, 7, 0, 3, 1, 0, 3, 0, 1);
     }
 
     // Promise 24 with Terms: "with S of 0 to 6: 0, 1, ROOT, 2, ROOT, 1, 0", in lowest terms.
     private static void splitSpans() {
-        dueSplit("1 and 1", lawfulAt(3, 5), 4, 1, 3, 0, 1, 3, 5, 0, 1, 3);
-        dueSplit("1 and 2", lawfulAt(3, 6), 4, 1, 3, 0, 1, 2, 6, 1, 0, 2);
-        dueSplit("2 and 1", lawfulAt(2, 5), 4, 1, 2, 1, 0, 2, 5, 0, 1, 2);
-        dueSplit("1 and 3", lawfulAt(3, 7), 4, 1, 3, 0, 2, 3, 7, 0, 1, 3);
-        dueSplit("2 and 2", lawfulAt(2, 6), 4, 1, 2, 1, 0, 1, 6, 1, 0, 1);
-        dueSplit("3 and 1", lawfulAt(1, 5), 4, 1, 1, 0, 1, 3, 5, 0, 2, 3);
-        dueSplit("1 and 4", lawfulAt(3, 8), 4, 1, 3, 0, 1, 1, 8, 1, 0, 1);
-        dueSplit("2 and 3", lawfulAt(2, 7), 4, 1, 2, 2, 0, 1, 7, 0, 1, 1);
-        dueSplit("3 and 2", lawfulAt(1, 6), 4, 1, 1, 0, 1, 1, 6, 2, 0, 1);
-        dueSplit("4 and 1", lawfulAt(0, 5), 4, 1, 0, 1, 0, 1, 5, 0, 1, 1);
+        Check.dueSplit("1 and 1", lawfulAt(3, 5), 4, 1, 3, 0, 1, 3, 5, 0, 1, 3);
+        Check.dueSplit("1 and 2", lawfulAt(3, 6), 4, 1, 3, 0, 1, 2, 6, 1, 0, 2);
+        Check.dueSplit("2 and 1", lawfulAt(2, 5), 4, 1, 2, 1, 0, 2, 5, 0, 1, 2);
+        Check.dueSplit("1 and 3", lawfulAt(3, 7), 4, 1, 3, 0, 2, 3, 7, 0, 1, 3);
+        Check.dueSplit("2 and 2", lawfulAt(2, 6), 4, 1, 2, 1, 0, 1, 6, 1, 0, 1);
+        Check.dueSplit("3 and 1", lawfulAt(1, 5), 4, 1, 1, 0, 1, 3, 5, 0, 2, 3);
+        Check.dueSplit("1 and 4", lawfulAt(3, 8), 4, 1, 3, 0, 1, 1, 8, 1, 0, 1);
+        Check.dueSplit("2 and 3", lawfulAt(2, 7), 4, 1, 2, 2, 0, 1, 7, 0, 1, 1);
+        Check.dueSplit("3 and 2", lawfulAt(1, 6), 4, 1, 1, 0, 1, 1, 6, 2, 0, 1);
+        Check.dueSplit("4 and 1", lawfulAt(0, 5), 4, 1, 0, 1, 0, 1, 5, 0, 1, 1);
     }
 
     // Promise 24: "a MOMENT (1 to 99)": the most, of which 3 and 2 may go.
     private static void splitMoments() {
-        dueSplit("99, 1 and 1", lawfulAt(3, 5), 4, 99, 3, 0, 33, 1, 5, 0, 33, 1);
-        dueSplit("98, 1 and 2", lawfulAt(3, 6), 4, 98, 3, 0, 49, 1, 6, 49, 0, 1);
-        dueSplit("99, 1 and 2", lawfulAt(3, 6), 4, 99, 3, 0, 99, 2, 6, 99, 0, 2);
-        dueSplit("99, 3 and 2", lawfulAt(1, 6), 4, 99, 1, 0, 99, 1, 6, 198, 0, 1);
+        Check.dueSplit("99, 1 and 1", lawfulAt(3, 5), 4, 99, 3, 0, 33, 1, 5, 0, 33, 1);
+        Check.dueSplit("98, 1 and 2", lawfulAt(3, 6), 4, 98, 3, 0, 49, 1, 6, 49, 0, 1);
+        Check.dueSplit("99, 1 and 2", lawfulAt(3, 6), 4, 99, 3, 0, 99, 2, 6, 99, 0, 2);
+        Check.dueSplit("99, 3 and 2", lawfulAt(1, 6), 4, 99, 1, 0, 99, 1, 6, 198, 0, 1);
     }
 
     // Promise 25: "BAD."

@@ -19,90 +19,73 @@ public final class HolesTest {
         Check.end();
     }
 
-    private static void dueFewest(String what, RotorBalancer x, int n, int holes, int bits, int figures) {
-        Check.due(what + ": holes", x.fewest(1, n, 0), holes);
-        Check.due(what + ": angles", x.fewest(1, n, 1), bits);
-        Check.due(what + ": sizes", x.fewest(1, n, 2), figures);
-    }
-
-    /** All in PLANE 1: MOMENT and ANGLE by turns. */
-    private static RotorBalancer withLumps(int limit, int sizes, int... lumps) {
-        RotorBalancer x = new RotorBalancer();
-        x.limit(limit);
-        x.sizes(sizes);
-        for (int i = 0; i < lumps.length; i += 2) {
-            x.lump(lumps[i], lumps[i + 1], 10);
-        }
-        return x;
-    }
-
     private static void nothingToDo() {
-        RotorBalancer x = withLumps(3, 22, 3, 5);
-        dueFewest("quiet as it is", x, 0, 0, 0, 0);
-        dueFewest("quiet as it is", x, 4, 0, 0, 0);
+        RotorBalancer x = Check.withLumps(3, 22, 3, 5);
+        Check.dueFewest("quiet as it is", x, 0, 0, 0, 0);
+        Check.dueFewest("quiet as it is", x, 4, 0, 0, 0);
         x.limit(2);
-        dueFewest("none allowed", x, 0, Check.NONE, 0, 0);
-        dueFewest("one is enough", x, 1, 1, 32, 2);
+        Check.dueFewest("none allowed", x, 0, Check.NONE, 0, 0);
+        Check.dueFewest("one is enough", x, 1, 1, 32, 2);
         Check.due("plane 0 is quiet", x.fewest(0, 1, 0), 0);
     }
 
     private static void leastSquare() {
-        dueFewest("2 leaves less than 1", withLumps(2, 6, 3, 0), 4, 1, 1, 2);
-        dueFewest("2 leaves less than 4", withLumps(2, 20, 3, 0), 4, 1, 1, 4 - 2);
-        dueFewest("4 leaves less than 1", withLumps(3, 18, 4, 0), 4, 1, 1, 4);
-        dueFewest("9 leaves nothing", withLumps(4, 256 | 512, 9, 0), 4, 1, 1, 9);
+        Check.dueFewest("2 leaves less than 1", Check.withLumps(2, 6, 3, 0), 4, 1, 1, 2);
+        Check.dueFewest("2 leaves less than 4", Check.withLumps(2, 20, 3, 0), 4, 1, 1, 4 - 2);
+        Check.dueFewest("4 leaves less than 1", Check.withLumps(3, 18, 4, 0), 4, 1, 1, 4);
+        Check.dueFewest("9 leaves nothing", Check.withLumps(4, 256 | 512, 9, 0), 4, 1, 1, 9);
     }
 
     private static void alikeAngles() {
-        RotorBalancer x = withLumps(2, 4, 3, 0);
+        RotorBalancer x = Check.withLumps(2, 4, 3, 0);
         x.lawful(1, 4094);
-        dueFewest("1 and 11 are alike", x, 4, 1, 2, 2);
+        Check.dueFewest("1 and 11 are alike", x, 4, 1, 2, 2);
         x.lawful(1, 4095 - 3);
-        dueFewest("11 alone", x, 4, 1, 2048, 2);
+        Check.dueFewest("11 alone", x, 4, 1, 2048, 2);
     }
 
     private static void alikeSizes() {
-        RotorBalancer x = withLumps(2, 2 | 32, 3, 0);
+        RotorBalancer x = Check.withLumps(2, 2 | 32, 3, 0);
         x.lawful(1, 1);
-        dueFewest("1 and 5 leave 2", x, 4, 1, 1, 1);
+        Check.dueFewest("1 and 5 leave 2", x, 4, 1, 1, 1);
     }
 
     private static void twoHoles() {
-        RotorBalancer x = withLumps(1, 16, 7, 0);
+        RotorBalancer x = Check.withLumps(1, 16, 7, 0);
         x.lawful(1, 2050);
-        dueFewest("two by 4 roots", x, 2, 2, 2050, 44);
-        dueFewest("one is too few", x, 1, Check.NONE, 0, 0);
+        Check.dueFewest("two by 4 roots", x, 2, 2, 2050, 44);
+        Check.dueFewest("one is too few", x, 1, Check.NONE, 0, 0);
         x.limit(0);
-        dueFewest("not quite", x, 4, Check.NONE, 0, 0);
+        Check.dueFewest("not quite", x, 4, Check.NONE, 0, 0);
     }
 
     private static void figuresByAngles() {
-        dueFewest("1 at 1, 4 at 11", withLumps(0, 22, 1, 1, 4, 11), 4, 2, 2050, 14);
-        dueFewest("4 at 1, 1 at 11", withLumps(0, 22, 4, 1, 1, 11), 4, 2, 2050, 41);
+        Check.dueFewest("1 at 1, 4 at 11", Check.withLumps(0, 22, 1, 1, 4, 11), 4, 2, 2050, 14);
+        Check.dueFewest("4 at 1, 1 at 11", Check.withLumps(0, 22, 4, 1, 1, 11), 4, 2, 2050, 41);
     }
 
     private static void threeAndFour() {
-        RotorBalancer x = withLumps(0, 22, 4, 0, 2, 3, 1, 7);
-        dueFewest("2 at 3 is 2 at 1 and 2 at 5, 1 at 7 takes 1 of it: 1 is before 3", x, 4, 3, 1 | 2 | 32, 412);
-        dueFewest("two are too few", x, 2, Check.NONE, 0, 0);
-        x = withLumps(0, 16, 8, 0);
-        dueFewest("one at each angle", x, 2, Check.NONE, 0, 0);
-        dueFewest("one at each angle", x, 3, 3, 1 | 4 | 1024, 444);
-        x = withLumps(0, 512, 9, 0, 9, 1, 9, 2, 9, 3);
-        dueFewest("four", x, 4, 4, 15, 9999);
-        dueFewest("three are too few", x, 3, Check.NONE, 0, 0);
+        RotorBalancer x = Check.withLumps(0, 22, 4, 0, 2, 3, 1, 7);
+        Check.dueFewest("2 at 3 is 2 at 1 and 2 at 5, 1 at 7 takes 1 of it: 1 is before 3", x, 4, 3, 1 | 2 | 32, 412);
+        Check.dueFewest("two are too few", x, 2, Check.NONE, 0, 0);
+        x = Check.withLumps(0, 16, 8, 0);
+        Check.dueFewest("one at each angle", x, 2, Check.NONE, 0, 0);
+        Check.dueFewest("one at each angle", x, 3, 3, 1 | 4 | 1024, 444);
+        x = Check.withLumps(0, 512, 9, 0, 9, 1, 9, 2, 9, 3);
+        Check.dueFewest("four", x, 4, 4, 15, 9999);
+        Check.dueFewest("three are too few", x, 3, Check.NONE, 0, 0);
     }
 
     private static void whereHolesMayBe() {
-        RotorBalancer x = withLumps(0, 22, 4, 6);
-        dueFewest("at 6", x, 1, 1, 64, 4);
+        RotorBalancer x = Check.withLumps(0, 22, 4, 6);
+        Check.dueFewest("at 6", x, 1, 1, 64, 4);
         x.drill(1, 6, 2);
-        dueFewest("6 has one", x, 1, Check.NONE, 0, 0);
-        dueFewest("by 5 and 7 no whole, by 4 and 8", x, 2, 2, 16 | 256, 22);
+        Check.dueFewest("6 has one", x, 1, Check.NONE, 0, 0);
+        Check.dueFewest("by 5 and 7 no whole, by 4 and 8", x, 2, 2, 16 | 256, 22);
         x.lawful(1, 4095 - 16);
-        dueFewest("4 is not lawful", x, 2, Check.NONE, 0, 0);
+        Check.dueFewest("4 is not lawful", x, 2, Check.NONE, 0, 0);
         x.lawful(1, 0);
-        dueFewest("none is lawful", x, 4, Check.NONE, 0, 0);
+        Check.dueFewest("none is lawful", x, 4, Check.NONE, 0, 0);
     }
 
     private static void fewestRefusals() {
@@ -118,7 +101,7 @@ public final class HolesTest {
     }
 
     private static void drillAll() {
-        RotorBalancer x = withLumps(0, 22, 1, 1, 4, 11);
+        RotorBalancer x = Check.withLumps(0, 22, 1, 1, 4, 11);
         x.drill(1, 5, 3);
         x.drill(1, 11, 3);
         Check.due("3 at 5 is in the way", x.drillAll(1, 1), Check.NOT);
@@ -135,30 +118,24 @@ public final class HolesTest {
         Check.due("plane 0 has none", x.count(1), 0);
     }
 
-    private static void dueSplit(String what, RotorBalancer x, int angle, int moment, int... want) {
-        for (int i = 0; i < 8; i++) {
-            Check.due(what + ": split(0, " + angle + ", " + moment + ", " + i + ")", x.split(0, angle, moment, i), want[i]);
-        }
-    }
-
     private static void splits() {
         RotorBalancer x = new RotorBalancer();
-        dueSplit("all there", x, 7, 99, 7, 99, 0, 1, Check.NONE, 0, 0, 1);
+        Check.dueSplit("all there", x, 7, 99, 7, 99, 0, 1, Check.NONE, 0, 0, 1);
         x.lawful(0, 1 << 11 | 1 << 1);
-        dueSplit("1 and 1, by ROOT", x, 0, 5, 11, 0, 5, 3, 1, 0, 5, 3);
+        Check.dueSplit("1 and 1, by ROOT", x, 0, 5, 11, 0, 5, 3, 1, 0, 5, 3);
         x.lawful(0, 1 << 3 | 1 << 6);
-        dueSplit("1 and 2, by 2", x, 4, 5, 3, 0, 5, 2, 6, 5, 0, 2);
-        dueSplit("2 and 1, by 2", x, 5, 4, 3, 2, 0, 1, 6, 0, 2, 1);
+        Check.dueSplit("1 and 2, by 2", x, 4, 5, 3, 0, 5, 2, 6, 5, 0, 2);
+        Check.dueSplit("2 and 1, by 2", x, 5, 4, 3, 2, 0, 1, 6, 0, 2, 1);
         x.lawful(0, 1 << 10 | 1 << 2);
-        dueSplit("1 and 3, by ROOT", x, 11, 5, 10, 0, 10, 3, 2, 0, 5, 3);
-        dueSplit("2 and 2, by ROOT", x, 0, 5, 10, 5, 0, 1, 2, 5, 0, 1);
-        dueSplit("3 and 1, by ROOT", x, 1, 6, 10, 0, 2, 1, 2, 0, 4, 1);
+        Check.dueSplit("1 and 3, by ROOT", x, 11, 5, 10, 0, 10, 3, 2, 0, 5, 3);
+        Check.dueSplit("2 and 2, by ROOT", x, 0, 5, 10, 5, 0, 1, 2, 5, 0, 1);
+        Check.dueSplit("3 and 1, by ROOT", x, 1, 6, 10, 0, 2, 1, 2, 0, 4, 1);
         x.lawful(0, 1 << 4 | 1 << 9);
-        dueSplit("1 and 4, by 1", x, 5, 99, 4, 0, 99, 1, 9, 99, 0, 1);
-        dueSplit("2 and 3, by 1", x, 6, 1, 4, 2, 0, 1, 9, 0, 1, 1);
-        dueSplit("3 and 2, by 1", x, 7, 1, 4, 0, 1, 1, 9, 2, 0, 1);
+        Check.dueSplit("1 and 4, by 1", x, 5, 99, 4, 0, 99, 1, 9, 99, 0, 1);
+        Check.dueSplit("2 and 3, by 1", x, 6, 1, 4, 2, 0, 1, 9, 0, 1, 1);
+        Check.dueSplit("3 and 2, by 1", x, 7, 1, 4, 0, 1, 1, 9, 2, 0, 1);
         x.drill(0, 4, 3);
-        dueSplit("a hole is no matter", x, 4, 2, 4, 2, 0, 1, Check.NONE, 0, 0, 1);
+        Check.dueSplit("a hole is no matter", x, 4, 2, 4, 2, 0, 1, Check.NONE, 0, 0, 1);
         Check.due("the other plane", x.split(1, 6, 1, 0), 6);
     }
 

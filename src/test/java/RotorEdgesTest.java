@@ -1,9 +1,5 @@
 /** Edges of promises 7 to 16; above each test stand the promise and the sentence that it holds to. */
 public final class RotorEdgesTest {
-    private static final int[][] WAYS = {
-        {2, 0, 0, 0}, {0, 1, 1, 0}, {1, 0, 0, 1}, {0, 0, 2, 0}, {-1, 0, 0, 1}, {0, -1, 1, 0},
-        {-2, 0, 0, 0}, {0, -1, -1, 0}, {-1, 0, 0, -1}, {0, 0, -2, 0}, {1, 0, 0, -1}, {0, 1, -1, 0}
-    };
     private static final int[] NO_ANGLES = {-1, 12, Edges.LEAST, Edges.MOST};
     private static final int[] NO_PLANES = {-1, 2, Edges.LEAST, Edges.MOST};
 
@@ -359,8 +355,8 @@ public final class RotorEdgesTest {
             x.drill(1, k, 3);
             int by = k % 3 == 0 ? 2 : 1;
             for (int i = 0; i < 4; i++) {
-                Check.due("LUMP at " + k, x.pull(0, i), 3 * WAYS[k][i] / by);
-                Check.due("HOLE at " + k, x.pull(1, i), -3 * WAYS[k][i] / by);
+                Check.due("LUMP at " + k, x.pull(0, i), 3 * Check.WAYS[k][i] / by);
+                Check.due("HOLE at " + k, x.pull(1, i), -3 * Check.WAYS[k][i] / by);
             }
             Check.due("by", x.pull(0, 4), 2 / by);
             Check.due("SQUARE", x.pull(0, 5), 9);
@@ -415,24 +411,14 @@ public final class RotorEdgesTest {
         }
     }
 
-    /** LUMPS at PLANE 1: MOMENT and ANGLE by turns. */
-    private static RotorBalancer with(int limit, int... lumps) {
-        RotorBalancer x = new RotorBalancer();
-        x.limit(limit);
-        for (int i = 0; i < lumps.length; i += 2) {
-            x.lump(lumps[i], lumps[i + 1], 10);
-        }
-        return x;
-    }
-
     // Promise 16 with Terms: "if SQUARE of its PULL is no more than LIMIT times LIMIT": like it, or 1 beside it.
     private static void quietAtLimit() {
         for (int v = 1; v < 100; v++) {
-            RotorBalancer x = with(v, v, v % 12);
+            RotorBalancer x = Check.withLumps(v, 22, v, v % 12);
             Check.due("like LIMIT", x.quiet(1), 1);
             x.limit(v - 1);
             Check.due("1 above LIMIT", x.quiet(1), 0);
-            x = with(v, v, v % 12);
+            x = Check.withLumps(v, 22, v, v % 12);
             x.lump(1, v % 12, 1);
             Check.due("a tenth above LIMIT", x.quiet(1), 0);
             Check.due("PLANE 0", x.quiet(0), 1);
@@ -441,17 +427,17 @@ public final class RotorEdgesTest {
 
     // Promise 16 with Terms: set "against each other without rounding": roots that are above or below by little.
     private static void quietByLittle() {
-        Check.due("above 41 41 by 0.0002", with(41, 82, 0, 71, 5).quiet(1), 0);
-        Check.due("above 15 15 by 0.0004", with(15, 30, 11, 26, 4).quiet(1), 0);
-        Check.due("below 83 83 by 0.008", with(83, 66, 0, 19, 1).quiet(1), 1);
-        Check.due("below 37 37 by 0.03", with(37, 28, 6, 10, 7).quiet(1), 1);
+        Check.due("above 41 41 by 0.0002", Check.withLumps(41, 22, 82, 0, 71, 5).quiet(1), 0);
+        Check.due("above 15 15 by 0.0004", Check.withLumps(15, 22, 30, 11, 26, 4).quiet(1), 0);
+        Check.due("below 83 83 by 0.008", Check.withLumps(83, 22, 66, 0, 19, 1).quiet(1), 1);
+        Check.due("below 37 37 by 0.03", Check.withLumps(37, 22, 28, 6, 10, 7).quiet(1), 1);
     }
 
     // Promise 16: LIMIT 0: QUIET, if nothing pulls.
     private static void quietLimitNought() {
-        Check.due("nothing", with(0).quiet(1), 1);
-        Check.due("all of it taken", with(0, 5, 3, 5, 9).quiet(1), 1);
-        RotorBalancer x = with(0);
+        Check.due("nothing", Check.withLumps(0, 22).quiet(1), 1);
+        Check.due("all of it taken", Check.withLumps(0, 22, 5, 3, 5, 9).quiet(1), 1);
+        RotorBalancer x = Check.withLumps(0, 22);
         x.lump(1, 0, 1);
         Check.due("a tenth", x.quiet(1), 0);
         x.lump(1, 6, 1);
@@ -461,11 +447,11 @@ public final class RotorEdgesTest {
 
     // Promise 16: LIMIT 99.
     private static void quietLimitMost() {
-        Check.due("99", with(99, 99, 7).quiet(1), 1);
-        RotorBalancer x = with(99, 99, 7);
+        Check.due("99", Check.withLumps(99, 22, 99, 7).quiet(1), 1);
+        RotorBalancer x = Check.withLumps(99, 22, 99, 7);
         x.lump(1, 7, 1);
         Check.due("99 and a tenth", x.quiet(1), 0);
-        x = with(99, 99, 7, 99, 8, 99, 9, 99, 6, 99, 5, 99, 4, 99, 10, 99, 3);
+        x = Check.withLumps(99, 22, 99, 7, 99, 8, 99, 9, 99, 6, 99, 5, 99, 4, 99, 10, 99, 3);
         Check.due("all that can be", x.quiet(1), 0);
     }
 }

@@ -1,10 +1,5 @@
 /** Promises 7 to 16: lumps, holes, what is lawful, sizes, limit, pulls, quiet. */
 public final class RotorTest {
-    private static final int[][] WAYS = {
-        {2, 0, 0, 0}, {0, 1, 1, 0}, {1, 0, 0, 1}, {0, 0, 2, 0}, {-1, 0, 0, 1}, {0, -1, 1, 0},
-        {-2, 0, 0, 0}, {0, -1, -1, 0}, {-1, 0, 0, -1}, {0, 0, -2, 0}, {1, 0, 0, -1}, {0, 1, -1, 0}
-    };
-
     public static void main(String[] args) {
         lumps();
         lumpRefusals();
@@ -138,8 +133,8 @@ public final class RotorTest {
             RotorBalancer x = new RotorBalancer();
             x.lump(20, k, 4);
             for (int i = 0; i < 4; i++) {
-                Check.due("plane 0, angle " + k, x.pull(0, i), 6 * WAYS[k][i]);
-                Check.due("plane 1, angle " + k, x.pull(1, i), 4 * WAYS[k][i]);
+                Check.due("plane 0, angle " + k, x.pull(0, i), 6 * Check.WAYS[k][i]);
+                Check.due("plane 1, angle " + k, x.pull(1, i), 4 * Check.WAYS[k][i]);
             }
             Check.due("by", x.pull(0, 4), 1);
         }
@@ -161,7 +156,7 @@ public final class RotorTest {
             RotorBalancer x = new RotorBalancer();
             x.drill(1, k, 6);
             for (int i = 0; i < 4; i++) {
-                Check.due("hole at " + k, x.pull(1, i), -3 * WAYS[k][i]);
+                Check.due("hole at " + k, x.pull(1, i), -3 * Check.WAYS[k][i]);
                 Check.due("not here", x.pull(0, i), 0);
             }
             Check.due("square", x.pull(1, 5), 36);
