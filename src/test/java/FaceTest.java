@@ -33,6 +33,8 @@ public final class FaceTest {
     public static void main(String[] args) throws IOException {
         constants();
         members();
+        classesInside();
+        fields();
         sourceText();
         Check.end();
     }
@@ -82,6 +84,30 @@ public final class FaceTest {
         Constructor<?>[] constructors = RotorBalancer.class.getDeclaredConstructors();
         Check.due("constructors", constructors.length, 1);
         Check.dueTrue("public", Modifier.isPublic(constructors[0].getModifiers()));
+    }
+
+    private static void classesInside() {
+        for (Class<?> c : RotorBalancer.class.getDeclaredClasses()) {
+            int modifiers = c.getModifiers();
+            Check.dueTrue(c + " is static", Modifier.isStatic(modifiers));
+            Check.dueTrue(c + " is hidden", !Modifier.isPublic(modifiers) && !Modifier.isProtected(modifiers));
+        }
+    }
+
+    private static void fields() {
+        List<Class<?>> classes = new ArrayList<>(List.of(RotorBalancer.class.getDeclaredClasses()));
+        classes.add(RotorBalancer.class);
+        for (Class<?> c : classes) {
+            int ofObjects = 0;
+            for (Field f : c.getDeclaredFields()) {
+                if (Modifier.isStatic(f.getModifiers())) {
+                    Check.dueTrue(f + " is final", Modifier.isFinal(f.getModifiers()));
+                } else {
+                    ofObjects++;
+                }
+            }
+            Check.dueTrue(c + " has some twenty fields at most", ofObjects <= 20);
+        }
     }
 
     private static void sourceText() throws IOException {
